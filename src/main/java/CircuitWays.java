@@ -121,7 +121,7 @@ public final class CircuitWays {
         }
         shares.refresh();
         tails.fill(net.allPlaces(), net.most);
-        return orNone(tails.leastThrough(a, b));
+        return orNone(tails.leastThrough(a, b, -NO));
     }
 
     public int without(int node) {
@@ -305,7 +305,9 @@ public final class CircuitWays {
         int changeCost(int a, int b, int cost) {
             int was = costs[a * NODES + b];
             costs[a * NODES + b] = cost;
-            changes++;
+            if (cost != was) {
+                changes++;
+            }
             return was;
         }
 
@@ -387,6 +389,8 @@ public final class CircuitWays {
     private static final class Paths {
         private final Net net;
         private final int[] setLoad = new int[SETS];
+        /** Of each set the NODES that may come behind it in a ROUND, if there is an ARC. */
+        final int[] followers = new int[SETS];
         final int[] pathCost = new int[SETS * NODES];
         private final int[] pathWays = new int[SETS * NODES];
         final int[] roundCost = new int[SETS];
@@ -401,6 +405,7 @@ public final class CircuitWays {
             clearPaths();
             int all = net.allPlaces();
             for (int set = 0; set <= all; set++) {
+                followers[set] = followersOf(set);
                 for (int last = 0; last < net.size; last++) {
                     if (pathCost[set * NODES + last] != NO) {
                         extend(set, last);
@@ -412,12 +417,15 @@ public final class CircuitWays {
             }
         }
 
-        /** May NODE v come behind the last of a set, in a ROUND that begins with that set? */
-        boolean mayFollow(int set, int last, int v) {
-            return (set & bit(v)) == 0
-                    && net.costs[last * NODES + v] != NO
-                    && (net.earlier[v] & ~set) == 0
-                    && setLoad[set | bit(v)] <= net.room;
+        private int followersOf(int set) {
+            int found = 0;
+            for (int v = 1; v < net.size; v++) {
+                boolean fits = setLoad[set] + net.loads[v] <= net.room;
+                if (fits && (set & bit(v)) == 0 && (net.earlier[v] & ~set) == 0) {
+                    found |= bit(v);
+                }
+            }
+            return found;
         }
 
         private void addLoads() {
@@ -441,15 +449,17 @@ public final class CircuitWays {
         private void extend(int set, int last) {
             int from = set * NODES + last;
             for (int v = 1; v < net.size; v++) {
-                if (mayFollow(set, last, v)) {
-                    int to = (set | bit(v)) * NODES + v;
-                    int cost = pathCost[from] + net.costs[last * NODES + v];
-                    if (cost < pathCost[to]) {
-                        pathCost[to] = cost;
-                        pathWays[to] = pathWays[from];
-                    } else if (cost == pathCost[to]) {
-                        pathWays[to] += pathWays[from];
-                    }
+                int arc = net.costs[last * NODES + v];
+                if (arc == NO || (followers[set] & bit(v)) == 0) {
+                    continue;
+                }
+                int to = (set | bit(v)) * NODES + v;
+                int cost = pathCost[from] + arc;
+                if (cost < pathCost[to]) {
+                    pathCost[to] = cost;
+                    pathWays[to] = pathWays[from];
+                } else if (cost == pathCost[to]) {
+                    pathWays[to] += pathWays[from];
                 }
             }
         }
@@ -505,7 +515,11 @@ public final class CircuitWays {
                 cost[rounds * SETS] = 0;
                 waysOf[rounds * SETS] = 1;
                 for (int set = 1; set <= all; set++) {
-                    share(rounds, set);
+                    if (Integer.bitCount(set) < rounds) {
+                        copyShare(rounds, set);
+                    } else {
+                        share(rounds, set);
+                    }
                 }
             }
         }
@@ -534,6 +548,12 @@ public final class CircuitWays {
             }
             cost[rounds * SETS + set] = least;
             waysOf[rounds * SETS + set] = leastCount;
+        }
+
+        /** A ROUND more than there are NODES changes nothing. */
+        private void copyShare(int rounds, int set) {
+            cost[rounds * SETS + set] = cost[(rounds - 1) * SETS + set];
+            waysOf[rounds * SETS + set] = waysOf[(rounds - 1) * SETS + set];
         }
 
         private void offer(int round, int rest) {
@@ -587,7 +607,7 @@ public final class CircuitWays {
 
         /** The COST of going on to NODE v and of all behind it. */
         int costOver(int set, int last, int v) {
-            if ((free & bit(v)) == 0 || !paths.mayFollow(set, last, v)) {
+            if ((paths.followers[set] & free & bit(v)) == 0) {
                 return NO;
             }
             return sum(net.costs[last * NODES + v], cost[(set | bit(v)) * NODES + v]);
@@ -600,19 +620,23 @@ public final class CircuitWays {
 
         private int leastBehind(int set, int last) {
             int least = costClosing(set, last);
+            int followers = paths.followers[set] & free;
             for (int v = 1; v < net.size; v++) {
-                least = Math.min(least, costOver(set, last, v));
+                if ((followers & bit(v)) != 0) {
+                    least = Math.min(least, costOver(set, last, v));
+                }
             }
             return least;
         }
 
-        int leastThrough(int a, int b) {
+        /** The least COST of a PLAN with an ARC, or the first that is found to be no more than enough. */
+        int leastThrough(int a, int b, int enough) {
             if (net.costs[a * NODES + b] == NO || (b == 0 && net.open == 1)) {
                 return NO;
             }
             int least = NO;
             int all = net.allPlaces();
-            for (int set = 0; set <= all; set++) {
+            for (int set = 0; set <= all && (least > enough || least == NO); set++) {
                 int path = paths.pathCost[set * NODES + a];
                 if (path != NO) {
                     int behind = b == 0 ? costClosing(set, a) : costOver(set, a, b);
@@ -625,7 +649,7 @@ public final class CircuitWays {
         int dropArcsAbove(int most) {
             for (int a = 0; a < net.size; a++) {
                 for (int b = 0; b < net.size; b++) {
-                    int least = leastThrough(a, b);
+                    int least = leastThrough(a, b, most);
                     above[a * NODES + b] = least == NO || least > most;
                 }
             }
