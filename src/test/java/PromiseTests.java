@@ -754,6 +754,8 @@ public final class PromiseTests {
       due("26 count(" + i + ")", x.count(i), counts[i]);
     }
     due("26 7", x.count(7), BAD);
+    x.ahead(3, 1, true);
+    due("26 a pair both ways is told twice, and counts twice", x.count(2), 4);
     due("26 -1", x.count(-1), BAD);
     due("26 far", x.count(HIGH), BAD);
     due("26 far", x.count(LOW), BAD);
