@@ -33,7 +33,9 @@ public final class BoundaryTests {
   private static void terms() {
     says("Terms: A ROUND is a row of one or more NODES",
         "nodes(1) all(1) rule(0,2) row(1)  check()=2 row(1,0) check()=NONE row(0,1) check()=NONE row(0) check()=NONE",
-        "nodes(2) all(1) rule(0,8) row(1,0,0,2) check()=NONE row(1,0,2) check()=4");
+        "nodes(2) all(1) rule(0,8) row(1,0,0,2) check()=NONE row(1,0,2) check()=4",
+        "nodes(1) all(1) rule(0,2) rule(2,1) row(1) check()=1 row(1,0) check()=NONE row(0,1) check()=NONE row(0) check()=NONE",
+        "nodes(1) price(1,0) rule(0,8) rule(2,1) row(0) check()=NONE row(0,0) check()=NONE row() check()=0 many()=1");
     says("Terms: not the HOUSE, each once",
         "nodes(2) all(1) rule(0,8) row(1,2,1) check()=NONE row(1,1) check()=NONE row(1,2) check()=3");
     says("Terms: with ARCS from the HOUSE to the first",
@@ -74,6 +76,7 @@ public final class BoundaryTests {
         "nodes(3) rule(0,3) arcs(0,1,1,1,0,1,0,2,1,2,0,1,0,3,1,3,0,1) written(1,0,2,0,3)");
     says("Terms: ORDER: at the first place where they differ the lesser one first",
         "nodes(3) all(1) many()=6 written(1,2,3)", "nodes(2) all(0) rule(0,2) many()=3 written(1,0,2)",
+        "nodes(2) all(0) rule(0,2) rule(2,1) many()=3 written(1,0,2)", "nodes(3) all(0) rule(0,8) rule(2,1) written(1,0,2,0,3)",
         "nodes(3) all(1) arc(1,2,2) many()=4 written(1,3,2)");
     says("Terms: the shorter one, if it is the beginning of the other",
         "nodes(2) all(0) price(2,0) many()=3 written(1)", "nodes(2) all(0) price(1,0) many()=3 written(1,2)",
@@ -173,6 +176,7 @@ public final class BoundaryTests {
         "nodes(1) price(2,7)=BAD price(-1,7)=BAD price(9,7)=BAD price(LOW,7)=BAD price(HIGH,7)=BAD node(0)=2 price(2,0)=-1");
 
     says("6 a is AHEAD of b, or not: 1 it was, 0",
+        "nodes(2) all(1) many()=2 ahead(2,1,true)=0 many()=1 written(2,1) ahead(2,1,false)=1 many()=2 written(1,2)",
         "nodes(2) ahead(1,2,false)=0 ahead(1,2,true)=0 ahead(1,2,true)=1 ahead(2,1,false)=0 ahead(1,2,false)=1 "
             + "ahead(1,2,false)=0 ahead(1,2,true)=0",
         "nodes(8) ahead(8,7,true)=0 ahead(7,8,true)=0 ahead(8,7,false)=1 ahead(7,8,false)=1 count(2)=0");
