@@ -542,8 +542,9 @@ public final class CircuitWays {
             int others = set & ~low;
             least = sum(cost[low], cost[rounds * SETS + others]);
             leastCount = least == NO ? 0 : waysOf[rounds * SETS + others];
-            // 'part' becomes less with each step: it goes down through all parts of 'others', 0 the last
-            for (int part = others; part >= 0; part = part == 0 ? -1 : (part - 1) & others) {
+            offer(low, (rounds - 1) * SETS + others);
+            // 'part' becomes less with each step: it goes down through all parts of 'others' but the empty one
+            for (int part = others; part > 0; part = (part - 1) & others) {
                 offer(part | low, (rounds - 1) * SETS + (others & ~part));
             }
             cost[rounds * SETS + set] = least;
